@@ -18,6 +18,7 @@ public final class BenchTest {
         mergeTriesPoolThenFirsts();
         mergeLeavesTheRest();
         mergeIntoAFullPool();
+        mergeOfAFirstInputThatThePoolHadNoRoomFor();
         check.end();
     }
 
@@ -341,5 +342,20 @@ public final class BenchTest {
         check.due("covered(1, 9, 5)", x.covered(1, 9, 5), 1);
         check.due("merge(0)", x.merge(0), 38);
         check.due("about(0, 0)", x.about(0, 0), 40);
+    }
+
+    private static void mergeOfAFirstInputThatThePoolHadNoRoomFor() {
+        ShrinkBench x = manyReaches();
+        Kit.load(x, Kit.in(Kit.CHECK, 7, 0, 0));
+        fillPool(x, 0);
+        check.due("attempt, further, a fault, the pool full", Kit.attempt(x, 0, 40), 2);
+        check.due("attempt of the byte 36", Kit.attempt(x, 1, 36), 1);
+        check.due("attempt of 0 .. 5", Kit.attempt(x, 1, 0, 1, 2, 3, 4, 5), 1);
+        // Of the pool all but the bytes 0 .. 5 and 36 come, and then the first input of the fault.
+        check.due("merge(1)", x.merge(1), 33 + 1);
+        check.due("about(1, 0)", x.about(1, 0), 36);
+        check.due("pool(1, 35)", x.pool(1, 35), 1);
+        check.due("at(0)", x.at(0), 40);
+        check.due("about(1, 4)", x.about(1, 4), 43);
     }
 }

@@ -10,12 +10,14 @@ public final class CutTest {
         cutOfOneByte();
         cutOfWhatCanAllGo();
         cutLeavesOutInHalves();
+        cutOfWhatCanNotGo();
         cutGoesRoundAgain();
         cutKeepsTheCallsOfTheFault();
         cutIsOfTheFirstInput();
         runsAreOfTheLatestCut();
         leastInputs();
         leastOfTheEmptyInput();
+        noByteIsAbove255();
         unseenBranches();
         refusals();
         check.end();
@@ -86,6 +88,15 @@ public final class CutTest {
         // s 2: o 0 and 2 do not; s 1: o 0 shows, then o 0, 1, 2 do not; [8, 7, 6] to [0, 0, 0] in 3.
         // Once more: s 2: o 0, 2; s 1: o 0, 1, 2.
         cutTo(y, 0, 2 + 4 + 3 + 5, 0, 0, 0);
+    }
+
+    /** Fails if there are all 24 bytes: parts of 12, 6, 3 and 1 are left out in vain. */
+    private static void cutOfWhatCanNotGo() {
+        ShrinkBench x = Kit.with(
+                Kit.in(Kit.COUNT, 0, 0, 0), Kit.in(Kit.SET, 1, 24, 0), Kit.in(Kit.IF_LESS, 0, 1, 4),
+                Kit.in(Kit.CHECK, 7, 0, 0));
+        Kit.attempt(x, 0, new int[24]);
+        cutTo(x, 0, 2 + 4 + 8 + 24, new int[24]);
     }
 
     /** The first machine fails if the bytes are as many as the first of them tells. */
@@ -185,6 +196,17 @@ public final class CutTest {
         check.due("least(0, 0)", x.least(0, 0), 0);
         check.due("at(0)", x.at(0), NONE);
         check.due("feed(3)", x.feed(3), 1);
+    }
+
+    /** Two bytes can make a sum of 255 and more, one byte and the -1 behind it can not. */
+    private static void noByteIsAbove255() {
+        ShrinkBench x = Kit.with(
+                Kit.in(Kit.NEXT, 0, 0, 0), Kit.in(Kit.NEXT, 1, 0, 0), Kit.in(Kit.ADD, 0, 1, 0),
+                Kit.in(Kit.SET, 2, 255, 0), Kit.in(Kit.IF_LESS, 0, 2, 6), Kit.in(Kit.CHECK, 7, 0, 0));
+        check.due("attempt(0)", Kit.attempt(x, 0, 200, 100), 3);
+        check.due("least(0, 0)", x.least(0, 0), STATE);
+        check.due("unseen(8)", x.unseen(8), 1);
+        check.due("unseen(9)", x.unseen(9), 0);
     }
 
     private static void unseenBranches() {
