@@ -877,7 +877,7 @@ public final class ShrinkBench {
 
         /** x and y are not below 0. */
         void apply(Input input, Shelf pool, int kind, int x, int y) {
-            int n = input.size();
+            int n = Math.max(input.size(), 0);
             if (kind == INSERT) {
                 insert(input, x % (n + 1), y % Input.BYTES);
             } else if (kind == CROSS) {
