@@ -22,16 +22,8 @@ public final class BenchTest {
         check.end();
     }
 
-    /** Goes to place 5 if the first byte is below 10, and fails there or at 4 by the second. */
-    private static ShrinkBench twoWays() {
-        return Kit.with(
-                Kit.in(Kit.NEXT, 0, 0, 0), Kit.in(Kit.NEXT, 1, 0, 0), Kit.in(Kit.SET, 2, 10, 0),
-                Kit.in(Kit.IF_LESS, 0, 2, 6), Kit.in(Kit.CHECK, 1, 0, 0), Kit.in(Kit.END, 0, 0, 0),
-                Kit.in(Kit.CHECK, 1, 0, 0));
-    }
-
     private static void attemptAnswers() {
-        ShrinkBench x = twoWays();
+        ShrinkBench x = Machines.twoWays();
         check.due("attempt(-1)", x.attempt(-1), NONE);
         check.due("attempt(2)", x.attempt(2), NONE);
         check.due("attempt, further, well", Kit.attempt(x, 0, 5, 1), 1);
@@ -55,27 +47,23 @@ public final class BenchTest {
         check.holds("attempt() leaves the tape", Kit.tapeOf(x).equals("[10, 0]"));
     }
 
-    /** Branch 5 has as many turns as there are bytes, branch 4 has one. */
-    private static ShrinkBench loopOverBytes() {
-        return Kit.with(
-                Kit.in(Kit.NEXT, 0, 0, 0), Kit.in(Kit.SET, 1, -1, 0), Kit.in(Kit.IF_LESS, 1, 0, 0));
-    }
-
     private static void reachesAreByDigits() {
-        ShrinkBench x = loopOverBytes();
-        int reaches = 0;
-        int[] digits = {0, 1, 2, 2, 3, 3, 3, 3, 4, 4, 4, 4, 4, 4, 4, 4, 5, 5, 5, 5, 5, 5, 5, 5, 5};
-        for (int n = 0; n <= 24; n++) {
-            boolean further = n == 0 || digits[n] != digits[n - 1];
-            reaches += further ? 1 : 0;
+        ShrinkBench x = Machines.loopOverBytes();
+        int[][] rows = {
+            // bytes, digits of as many turns, reaches in all
+            {0, 0, 1}, {1, 1, 2}, {2, 2, 3}, {3, 2, 3}, {4, 3, 4}, {7, 3, 4}, {8, 4, 5}, {15, 4, 5}, {16, 5, 6},
+            {24, 5, 6}};
+        for (int i = 0; i < rows.length; i++) {
+            int n = rows[i][0];
+            boolean further = i == 0 || rows[i][2] != rows[i - 1][2];
             check.due("attempt of " + n + " bytes", Kit.attempt(x, 0, new int[n]), further ? 1 : 0);
             check.due("turns(5)", x.turns(5), n);
-            check.due("about(0, 0)", x.about(0, 0), reaches);
-            check.due("about(0, 2)", x.about(0, 2), reaches);
+            check.due("about(0, 0)", x.about(0, 0), rows[i][2]);
+            check.due("about(0, 2)", x.about(0, 2), rows[i][2]);
             check.due("about(0, 3)", x.about(0, 3), n == 0 ? 1 : 2);
-            check.due("about(0, 4)", x.about(0, 4), n + 1);
+            check.due("about(0, 4)", x.about(0, 4), i + 1);
             for (int d = 1; d <= 9; d++) {
-                check.due("covered(0, 5, " + d + ")", x.covered(0, 5, d), d <= digits[n] ? 1 : 0);
+                check.due("covered(0, 5, " + d + ")", x.covered(0, 5, d), d <= rows[i][1] ? 1 : 0);
                 check.due("covered(0, 4, " + d + ")", x.covered(0, 4, d), d == 1 ? 1 : 0);
             }
         }
@@ -90,29 +78,9 @@ public final class BenchTest {
         check.due("about(1, 2)", x.about(1, 2), 1);
     }
 
-    /** Each byte below 37 goes through a branch of its own; then comes the next byte. */
-    private static ShrinkBench manyReaches() {
-        ShrinkBench x = Kit.with(
-                Kit.in(Kit.SET, 2, 1, 0), Kit.in(Kit.NEXT, 0, 0, 0), Kit.in(Kit.SET, 1, 0, 0),
-                Kit.in(Kit.IF_LESS, 0, 1, 79));
-        for (int i = 0; i < 37; i++) {
-            Kit.load(x, Kit.in(Kit.IF_SAME, 0, 1, 1), Kit.in(Kit.ADD, 1, 2, 0));
-        }
-        return x;
-    }
-
-    private static void fillPool(ShrinkBench x, int bench) {
-        for (int i = 0; i < 37; i++) {
-            check.due("attempt of byte " + i, Kit.attempt(x, bench, i), 1);
-        }
-        for (int n = 2; n <= 8; n *= 2) {
-            check.due("attempt of " + n + " bytes 0", Kit.attempt(x, bench, new int[n]), 1);
-        }
-    }
-
     private static void poolHolds40() {
-        ShrinkBench x = manyReaches();
-        fillPool(x, 0);
+        ShrinkBench x = Machines.manyReaches();
+        Machines.fillPool(check, x, 0);
         check.due("about(0, 0)", x.about(0, 0), 40);
         int reaches = x.about(0, 2);
         check.due("covered(0, 9, 5)", x.covered(0, 9, 5), 0);
@@ -127,21 +95,8 @@ public final class BenchTest {
         check.due("at(0)", x.at(0), 36);
     }
 
-    /** Byte i below 22 fails with kind 1 at place 47 + i. */
-    private static ShrinkBench manyFaults() {
-        ShrinkBench x = Kit.with(Kit.in(Kit.NEXT, 0, 0, 0), Kit.in(Kit.SET, 2, 1, 0));
-        for (int i = 0; i < 22; i++) {
-            Kit.load(x, Kit.in(Kit.IF_SAME, 0, 1, 47 + i), Kit.in(Kit.ADD, 1, 2, 0));
-        }
-        Kit.load(x, Kit.in(Kit.END, 0, 0, 0));
-        for (int i = 0; i < 22; i++) {
-            Kit.load(x, Kit.in(Kit.DIVIDE, 3, 7, 0));
-        }
-        return x;
-    }
-
     private static void faultsAre20AtMost() {
-        ShrinkBench x = manyFaults();
+        ShrinkBench x = Machines.manyFaults();
         for (int i = 0; i < 22; i++) {
             check.due("attempt of byte " + i, Kit.attempt(x, 0, i), i < 20 ? 3 : 1);
             check.due("told(1)", x.told(1), 47 + i);
@@ -164,19 +119,8 @@ public final class BenchTest {
         check.due("least(0, 20)", x.least(0, 20), NONE);
     }
 
-    /**
-     * Bytes choose calls: at each level a byte 0 calls from place 4, another one from place 6; where
-     * there is no byte more the check at 8 fails.
-     */
-    private static ShrinkBench callTree() {
-        return Kit.with(
-                Kit.in(Kit.SET, 1, -1, 0), Kit.in(Kit.NEXT, 0, 0, 0), Kit.in(Kit.IF_SAME, 0, 1, 8),
-                Kit.in(Kit.IF_LESS, 7, 0, 6), Kit.in(Kit.CALL, 0, 0, 1), Kit.in(Kit.END, 0, 0, 0),
-                Kit.in(Kit.CALL, 0, 0, 1), Kit.in(Kit.END, 0, 0, 0), Kit.in(Kit.CHECK, 7, 0, 0));
-    }
-
     private static void faultsAreToldApart() {
-        ShrinkBench x = callTree();
+        ShrinkBench x = Machines.callTree();
         int[][] inputs = {{}, {0}, {1}, {0, 0}, {0, 1}, {1, 0}, {1, 1}};
         int[][] calls = {{NONE, NONE}, {4, NONE}, {6, NONE}, {4, 4}, {6, 4}, {4, 6}, {6, 6}};
         for (int f = 0; f < inputs.length; f++) {
@@ -206,7 +150,7 @@ public final class BenchTest {
     }
 
     private static void faultsCountTheirInputs() {
-        ShrinkBench x = twoWays();
+        ShrinkBench x = Machines.twoWays();
         Kit.attempt(x, 0, 10, 0);
         Kit.attempt(x, 0, 1, 0);
         Kit.attempt(x, 0, 2, 0);
@@ -224,7 +168,7 @@ public final class BenchTest {
     }
 
     private static void poolAndFirstMakeTheTape() {
-        ShrinkBench x = twoWays();
+        ShrinkBench x = Machines.twoWays();
         Kit.attempt(x, 0, 5, 1, 9);
         Kit.attempt(x, 0, 6, 0);
         Kit.attempt(x, 0, 200, 0, 7, 7);
@@ -249,7 +193,7 @@ public final class BenchTest {
         check.due("first(0, 2)", x.first(0, 2), NONE);
         check.due("first(1, 0)", x.first(1, 0), NONE);
         check.holds("a refusal leaves the tape", Kit.tapeOf(x).equals("[8]"));
-        ShrinkBench empty = loopOverBytes();
+        ShrinkBench empty = Machines.loopOverBytes();
         check.due("attempt of the empty input", empty.attempt(1), 1);
         Kit.tape(empty, 1, 2);
         check.due("pool(1, 0)", empty.pool(1, 0), 0);
@@ -257,7 +201,7 @@ public final class BenchTest {
     }
 
     private static void refusals() {
-        ShrinkBench x = twoWays();
+        ShrinkBench x = Machines.twoWays();
         Kit.attempt(x, 0, 5, 0);
         Kit.attempt(x, 1, 5, 0);
         for (int bad : new int[] {MIN, -2, -1, 2, 3, MAX}) {
@@ -288,7 +232,7 @@ public final class BenchTest {
     }
 
     private static void mergeTriesPoolThenFirsts() {
-        ShrinkBench x = twoWays();
+        ShrinkBench x = Machines.twoWays();
         check.due("merge(0) of nothing", x.merge(0), 0);
         check.due("attempt, to the pool", Kit.attempt(x, 0, 5, 1), 1);
         check.due("attempt, a fault alone", Kit.attempt(x, 0, 6, 0), 2);
@@ -318,7 +262,7 @@ public final class BenchTest {
     }
 
     private static void mergeLeavesTheRest() {
-        ShrinkBench x = loopOverBytes();
+        ShrinkBench x = Machines.loopOverBytes();
         Kit.attempt(x, 0, 1, 2, 3);
         Kit.attempt(x, 1, 1);
         check.due("merge(1)", x.merge(1), 1);
@@ -333,8 +277,8 @@ public final class BenchTest {
     }
 
     private static void mergeIntoAFullPool() {
-        ShrinkBench x = manyReaches();
-        fillPool(x, 1);
+        ShrinkBench x = Machines.manyReaches();
+        Machines.fillPool(check, x, 1);
         Kit.attempt(x, 0, new int[16]);
         Kit.attempt(x, 0, 3, 3, 3, 3);
         check.due("merge(1), the pool full", x.merge(1), 0);
@@ -345,9 +289,9 @@ public final class BenchTest {
     }
 
     private static void mergeOfAFirstInputThatThePoolHadNoRoomFor() {
-        ShrinkBench x = manyReaches();
+        ShrinkBench x = Machines.manyReaches();
         Kit.load(x, Kit.in(Kit.CHECK, 7, 0, 0));
-        fillPool(x, 0);
+        Machines.fillPool(check, x, 0);
         check.due("attempt, further, a fault, the pool full", Kit.attempt(x, 0, 40), 2);
         check.due("attempt of the byte 36", Kit.attempt(x, 1, 36), 1);
         check.due("attempt of 0 .. 5", Kit.attempt(x, 1, 0, 1, 2, 3, 4, 5), 1);

@@ -1,6 +1,16 @@
+import java.io.IOException;
+import java.io.UncheckedIOException;
+import java.nio.file.Files;
+import java.nio.file.Path;
+import java.util.Arrays;
+
 /** Counts the answers that are not the ones that are due, and prints each of them. */
 final class Check {
+    private static final Path DOCUMENT = Path.of("../shared/DOC.md");
+
     private final String name;
+    private String document = "";
+    private String sentence = "";
     private int made = 0;
     private int wrong = 0;
 
@@ -8,11 +18,28 @@ final class Check {
         this.name = name;
     }
 
+    /** What is looked at from here on is due by these words, which must stand in the document. */
+    void by(String words) {
+        sentence = " [" + words + "]";
+        holds("the document says so", document().contains(words));
+    }
+
+    private String document() {
+        if (document.isEmpty()) {
+            try {
+                document = Files.readString(DOCUMENT).replaceAll("\\s+", " ");
+            } catch (IOException e) {
+                throw new UncheckedIOException(e);
+            }
+        }
+        return document;
+    }
+
     void due(String call, long got, long want) {
         made++;
         if (got != want) {
             wrong++;
-            System.out.println(name + ": " + call + " answered " + got + ", due is " + want);
+            System.out.println(name + ": " + call + " answered " + got + ", due is " + want + sentence);
         }
     }
 
@@ -20,8 +47,16 @@ final class Check {
         made++;
         if (!so) {
             wrong++;
-            System.out.println(name + ": does not hold: " + what);
+            System.out.println(name + ": does not hold: " + what + sentence);
         }
+    }
+
+    void same(String what, String got, String want) {
+        holds(what + " is " + want + ", not " + got, got.equals(want));
+    }
+
+    void tape(String when, ShrinkBench x, int... want) {
+        same("the tape " + when, Kit.tapeOf(x), Arrays.toString(want));
     }
 
     boolean allRight() {

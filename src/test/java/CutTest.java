@@ -23,13 +23,6 @@ public final class CutTest {
         check.end();
     }
 
-    /** Fails with kind 4 at place 4 if the first byte is not below a number. */
-    private static ShrinkBench notBelow(int number) {
-        return Kit.with(
-                Kit.in(Kit.NEXT, 0, 0, 0), Kit.in(Kit.SET, 1, number, 0), Kit.in(Kit.IF_LESS, 0, 1, 4),
-                Kit.in(Kit.CHECK, 7, 0, 0));
-    }
-
     private static void cutTo(ShrinkBench x, int f, int runs, int... want) {
         String due = java.util.Arrays.toString(want);
         check.due("cut(0, " + f + ") to " + due, x.cut(0, f), want.length);
@@ -44,18 +37,18 @@ public final class CutTest {
             {1, 1, 4}, {1, 2, 10}, {2, 2, 4}, {2, 3, 11}, {3, 3, 4}, {100, 200, 10}, {100, 201, 10},
             {255, 255, 4}};
         for (int[] row : rows) {
-            ShrinkBench x = notBelow(row[0]);
+            ShrinkBench x = Machines.notBelow(row[0]);
             check.due("attempt(0)", Kit.attempt(x, 0, row[1]), 3);
             cutTo(x, 0, row[2], row[0]);
         }
         // From 199 on only 1 less shows, 99 times, of three runs each.
-        ShrinkBench x = notBelow(100);
+        ShrinkBench x = Machines.notBelow(100);
         Kit.attempt(x, 0, 199);
         cutTo(x, 0, 1 + 3 * 99 + 3 + 1 + 3, 100);
-        ShrinkBench zero = notBelow(0);
+        ShrinkBench zero = Machines.notBelow(0);
         Kit.attempt(zero, 0, 77);
         cutTo(zero, 0, 1 + 1 + 1, 0);
-        ShrinkBench already = notBelow(0);
+        ShrinkBench already = Machines.notBelow(0);
         Kit.attempt(already, 0, 0);
         cutTo(already, 0, 1, 0);
     }
@@ -120,15 +113,10 @@ public final class CutTest {
         cutTo(y, 0, 5 + 3 + 3 + 1, 0);
     }
 
-    /** Each byte calls, from place 4 if it is 0, else from 6; behind the last the check at 8 fails. */
     private static void cutKeepsTheCallsOfTheFault() {
-        int[][] rows = {
-            Kit.in(Kit.SET, 1, -1, 0), Kit.in(Kit.NEXT, 0, 0, 0), Kit.in(Kit.IF_SAME, 0, 1, 8),
-            Kit.in(Kit.IF_LESS, 7, 0, 6), Kit.in(Kit.CALL, 0, 0, 1), Kit.in(Kit.END, 0, 0, 0),
-            Kit.in(Kit.CALL, 0, 0, 1), Kit.in(Kit.END, 0, 0, 0), Kit.in(Kit.CHECK, 7, 0, 0)};
         int[][] firsts = {{7, 0, 0, 9, 0}, {9, 9, 9, 9}, {0, 0, 0, 9}, {5}, {0, 0, 0}};
         int[][] cuts = {{1, 0}, {1, 1}, {0, 1}, {1}, {0, 0}};
-        ShrinkBench x = Kit.with(rows);
+        ShrinkBench x = Machines.callTree();
         for (int f = 0; f < firsts.length; f++) {
             check.due("attempt of fault " + f, Kit.attempt(x, 0, firsts[f]) & 2, 2);
             check.due("cut(0, " + f + ")", x.cut(0, f), cuts[f].length);
@@ -138,7 +126,7 @@ public final class CutTest {
     }
 
     private static void cutIsOfTheFirstInput() {
-        ShrinkBench x = notBelow(50);
+        ShrinkBench x = Machines.notBelow(50);
         Kit.attempt(x, 0, 60, 1);
         Kit.attempt(x, 0, 50);
         Kit.tape(x, 1, 2, 3);
@@ -156,7 +144,7 @@ public final class CutTest {
     }
 
     private static void runsAreOfTheLatestCut() {
-        ShrinkBench x = notBelow(1);
+        ShrinkBench x = Machines.notBelow(1);
         check.due("runs() ahead of any cut", x.runs(), 0);
         Kit.attempt(x, 1, 2);
         check.due("runs() behind attempt()", x.runs(), 0);
@@ -174,7 +162,7 @@ public final class CutTest {
 
     private static void leastInputs() {
         for (int least : new int[] {0, 1, 128, 254, 255}) {
-            ShrinkBench x = notBelow(least);
+            ShrinkBench x = Machines.notBelow(least);
             Kit.attempt(x, 0, 255, 3);
             check.due("least(0, 0)", x.least(0, 0), 1);
             check.due("at(0)", x.at(0), least);
@@ -237,7 +225,7 @@ public final class CutTest {
     }
 
     private static void refusals() {
-        ShrinkBench x = notBelow(9);
+        ShrinkBench x = Machines.notBelow(9);
         Kit.attempt(x, 0, 9);
         Kit.attempt(x, 1, 9);
         Kit.tape(x, 1, 2);

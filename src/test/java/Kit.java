@@ -42,7 +42,8 @@ final class Kit {
     /** The bytes of the tape, as a text. */
     static String tapeOf(ShrinkBench x) {
         List<Integer> bytes = new ArrayList<>();
-        for (int i = 0; x.at(i) != ShrinkBench.NONE; i++) {
+        // One more than a tape may have, so that a longer one is seen and this still ends.
+        for (int i = 0; i < 25 && x.at(i) != ShrinkBench.NONE; i++) {
             bytes.add(x.at(i));
         }
         return bytes.toString();

@@ -36,7 +36,8 @@ public final class ModelTest {
         load();
         while (right && calls.size() < CALLS - 40) {
             call(CALLS_BY_WEIGHT[random.nextInt(CALLS_BY_WEIGHT.length)]);
-            if (random.nextInt(300) == 0) {
+            // Far enough from the end for another program.
+            if (calls.size() < CALLS - 140 && random.nextInt(300) == 0) {
                 due("wipe()", bench.wipe(), model.wipe());
                 load();
             }

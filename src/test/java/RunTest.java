@@ -226,28 +226,15 @@ public final class RunTest {
         check.due("told(3)", r.told(3), 1);
     }
 
-    /** Counts down from the first byte: 2 + 2 * byte instructions, and the told ones behind. */
-    private static ShrinkBench countdown(int behind) {
-        int[][] rows = new int[4 + behind][];
-        rows[0] = Kit.in(Kit.SET, 1, 1, 0);
-        rows[1] = Kit.in(Kit.NEXT, 0, 0, 0);
-        rows[2] = Kit.in(Kit.SUBTRACT, 0, 1, 0);
-        rows[3] = Kit.in(Kit.IF_LESS, 7, 0, 2);
-        for (int place = 4; place < rows.length; place++) {
-            rows[place] = Kit.in(Kit.SET, 2, place, 0);
-        }
-        return Kit.with(rows);
-    }
-
     private static void tooManyInstructions() {
-        ShrinkBench s = countdown(0);
+        ShrinkBench s = Machines.countdown(0);
         check.due("run() of 400 instructions, and no other", Kit.run(s, 199), 0);
         check.due("told(3)", s.told(3), 400);
         check.due("turns(7)", s.turns(7), 198);
         check.due("turns(6)", s.turns(6), 1);
         check.due("run() of 402", Kit.run(s, 200), 5);
         tellsFailure(s, 5, 2, 0, 400);
-        ShrinkBench t = countdown(1);
+        ShrinkBench t = Machines.countdown(1);
         check.due("run() of 401 instructions", Kit.run(t, 199), 5);
         tellsFailure(t, 5, 4, 0, 400);
         check.due("register(2)", t.register(2), 0);
@@ -278,7 +265,7 @@ public final class RunTest {
         check.due("turns(160)", s.turns(160), NONE);
         check.due("turns(MIN)", s.turns(MIN), NONE);
         check.due("turns(MAX)", s.turns(MAX), NONE);
-        ShrinkBench both = countdown(0);
+        ShrinkBench both = Machines.countdown(0);
         Kit.run(both, 3);
         check.due("told(4), both branches", both.told(4), 2);
         check.due("turns(8), of a place that is none", both.turns(8), 0);
@@ -286,7 +273,7 @@ public final class RunTest {
     }
 
     private static void refusalsOfTheLatestRun() {
-        ShrinkBench s = countdown(0);
+        ShrinkBench s = Machines.countdown(0);
         Kit.run(s, 3);
         for (int what : new int[] {-1, 5, 6, MIN, MAX}) {
             check.due("told(" + what + ")", s.told(what), NONE);

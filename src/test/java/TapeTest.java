@@ -48,14 +48,14 @@ public final class TapeTest {
         check.due("keep(MIN)", x.keep(Integer.MIN_VALUE), BAD);
         check.due("keep(MAX)", x.keep(Integer.MAX_VALUE), BAD);
         check.due("keep(4)", x.keep(4), 4);
-        tapeIs(x, "behind keep(4)", 5, 6, 7, 8);
+        check.tape("behind keep(4)", x, 5, 6, 7, 8);
         check.due("keep(2)", x.keep(2), 2);
-        tapeIs(x, "behind keep(2)", 5, 6);
+        check.tape("behind keep(2)", x, 5, 6);
         check.due("keep(3) of 2", x.keep(3), BAD);
         check.due("feed(9)", x.feed(9), 3);
-        tapeIs(x, "behind feed(9)", 5, 6, 9);
+        check.tape("behind feed(9)", x, 5, 6, 9);
         check.due("keep(0)", x.keep(0), 0);
-        tapeIs(x, "behind keep(0)");
+        check.tape("behind keep(0)", x);
     }
 
     private static void at() {
@@ -135,10 +135,10 @@ public final class TapeTest {
             Kit.tape(x, row[0]);
             String call = "change(" + row[1][0] + ", 6, " + row[1][1] + ", " + row[1][2] + ")";
             check.due(call, x.change(row[1][0], 6, row[1][1], row[1][2]), row[2].length);
-            tapeIs(x, "behind " + call, row[2]);
+            check.tape("behind " + call, x, row[2]);
         }
         check.due("pool(0, 0) stays", x.pool(0, 0), 4);
-        tapeIs(x, "behind pool(0, 0)", 1, 2, 3, 4);
+        check.tape("behind pool(0, 0)", x, 1, 2, 3, 4);
     }
 
     private static ShrinkBench benchWithPools() {
@@ -178,7 +178,7 @@ public final class TapeTest {
         x.wipe();
         Kit.tape(x, 4, 5);
         check.due("change(0, 6, 1, 1) behind wipe()", x.change(0, 6, 1, 1), 2);
-        tapeIs(x, "behind wipe()", 4, 5);
+        check.tape("behind wipe()", x, 4, 5);
     }
 
     private static void changeRefusals() {
@@ -198,7 +198,7 @@ public final class TapeTest {
         }
         check.due("change of kind -1", x.change(0, -1, 0, 0), BAD);
         check.due("change of kind 7", x.change(0, 7, 0, 0), BAD);
-        tapeIs(x, "behind refusals", 1, 2, 3);
+        check.tape("behind refusals", x, 1, 2, 3);
     }
 
     private static void changed(int kind, int x, int y, int[] tape, int... want) {
@@ -207,13 +207,7 @@ public final class TapeTest {
             Kit.tape(s, tape);
             String call = "change(" + bench + ", " + kind + ", " + x + ", " + y + ")";
             check.due(call, s.change(bench, kind, x, y), want.length);
-            tapeIs(s, "behind " + call, want);
+            check.tape("behind " + call, s, want);
         }
-    }
-
-    private static void tapeIs(ShrinkBench x, String when, int... want) {
-        String got = Kit.tapeOf(x);
-        String due = java.util.Arrays.toString(want);
-        check.holds("the tape is " + due + " " + when + ", not " + got, got.equals(due));
     }
 }
