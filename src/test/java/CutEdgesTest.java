@@ -19,6 +19,7 @@ public final class CutEdgesTest {
         halfIsCut();
         lessThanIt();
         roundsGoOn();
+        thousandsOfRounds();
         nIsWhatItHasThen();
         showsTheFault();
         showsByTwoCalls();
@@ -187,6 +188,38 @@ public final class CutEdgesTest {
         cutTo(tried(oneOf(7), 7, 0), 0, 2 + 3 + 1 + 3, 7);
         // A round that lessened alone is not the last one either.
         cutTo(tried(oneOf(7, 6), 7), 0, 1 + 3 + 3 + 1 + 3, 6);
+    }
+
+    /**
+     * Fails on 24 bytes of which none is above the one ahead of it, and the last is at most 1 below
+     * the first: of equal ones, they can be 1 less only from the last one to the first.
+     */
+    private static ShrinkBench fromTheLastOn() {
+        return Kit.with(
+                Kit.in(Kit.COUNT, 0, 0, 0), Kit.in(Kit.SET, 1, 24, 0), Kit.in(Kit.IF_LESS, 0, 1, 15),
+                Kit.in(Kit.NEXT, 2, 0, 0), Kit.in(Kit.COPY, 3, 2, 0), Kit.in(Kit.SET, 5, -1, 0),
+                Kit.in(Kit.NEXT, 4, 0, 0), Kit.in(Kit.IF_SAME, 4, 5, 11), Kit.in(Kit.IF_LESS, 3, 4, 15),
+                Kit.in(Kit.COPY, 3, 4, 0), Kit.in(Kit.JUMP, 0, 0, 6),
+                Kit.in(Kit.SUBTRACT, 2, 3, 0), Kit.in(Kit.SET, 6, 2, 0), Kit.in(Kit.IF_LESS, 2, 6, 16),
+                Kit.in(Kit.JUMP, 0, 0, 15), Kit.in(Kit.END, 0, 0, 0), Kit.in(Kit.CHECK, 7, 0, 0));
+    }
+
+    /** The document names no bound of the rounds: it is the dearest cut that these tests make. */
+    private static void thousandsOfRounds() {
+        check.by("A round that changes nothing is the last one.");
+        int[] input = new int[24];
+        Arrays.fill(input, 255);
+        // Byte 0 is 1 less, and byte 23 once more, in each 23rd round from round 24 on, another byte
+        // in each one between: byte 0 is 0 behind round 1 + 23 * 255, and byte j > 0 behind round
+        // 1 + 23 * 254 + 23 - j. The last round changes nothing.
+        int rounds = 1 + 23 * 255 + 1;
+        // Down to 2 each by the third way, from 2 by the second and from 1 by the first.
+        int lessened = 24 * (253 * 3 + 2 + 1);
+        int inVain = 0;
+        for (int j = 0; j < 24; j++) {
+            inVain += 3 * (1 + 23 * 254 + 22 - j);
+        }
+        cutTo(tried(fromTheLastOn(), input), 0, 38 * rounds + lessened + inVain, new int[24]);
     }
 
     private static void nIsWhatItHasThen() {
